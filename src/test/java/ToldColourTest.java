@@ -114,6 +114,8 @@ public final class ToldColourTest {
         colours("chain(3, 1)", x, 1, 0, 2, 1, 2, 0, 0, 1, 0);
         Expect.due("chain(0, 29)", x.chain(0, 29), 1);
         colours("chain(0, 29)", x, 29, 0, 2, 1, 2, 0, 0, 1, 0);
+        Expect.due("chain(1, 5) beside other colours", x.chain(1, 5), 1);
+        colours("chain(1, 5)", x, 29, 5, 2, 1, 2, 0, 0, 1, 0);
         // Vertices without a colour, and those of one colour side by side.
         paintAll(x, 3, 3, -1, 3, 3, 4, 3, 3);
         Expect.due("chain(0, 4)", x.chain(0, 4), 2);

@@ -10,6 +10,7 @@ public final class ToldLogTest {
         checkNumbers();
         checkBranches();
         checkBlocks();
+        checkForgetsColoursOnTheWayBack();
         checkTries();
         checkCloses();
         checkEnds();
@@ -188,6 +189,24 @@ public final class ToldLogTest {
         }
         x = tellAll(Graphs.of(2, 0, 1), 1, 0, 2, 1);
         Expect.due("check(1): BLOCK by a vertex without a colour", x.check(1), 1);
+    }
+
+    private static void checkForgetsColoursOnTheWayBack() {
+        // The triangle of 4, 5 and 6 closes everywhere with two colours. 2 has the colour 1 for lines 7 and 8 alone.
+        ColourProof x = tellAll(Graphs.of(7, 3, 1, 3, 2, 4, 5, 4, 6, 5, 6),
+                1, 0, 3, 0, 1, 1, 3, 0, 1, 2, 3, 0, 4, 112, 3, 1, 4, 112, 3, 1, 1, 3, 3, 0, 4, 112, 2, 1);
+        Expect.due("check(2): BLOCK by a vertex with the colour", x.check(2), -1);
+        x.alter(13, 2, 2);
+        Expect.due("check(2): BLOCK by a vertex that had the colour", x.check(2), 13);
+        x.alter(13, 3, 1);
+        Expect.due("check(2): TRY of a colour that is blocked", x.check(2), 13);
+        // Behind a TRY a proof is wanted first, not what the branch wants behind that.
+        x = tellAll(Graphs.of(7, 0, 1, 4, 5, 4, 6, 5, 6), 1, 0, 3, 0, 1, 2, 3, 0, 3, 1, 4, 112);
+        Expect.due("check(2): TRY where a proof is due", x.check(2), 4);
+        x = tellAll(Graphs.of(7, 0, 1, 1, 2, 4, 5, 4, 6, 5, 6), 1, 0, 3, 0, 1, 2, 3, 0, 4, 112, 3, 1, 1, 1, 2, 0, 2, 2);
+        Expect.due("check(2): BLOCKS of two", x.check(2), -1);
+        x = tellAll(Graphs.of(7, 0, 1, 4, 5, 4, 6, 5, 6), 1, 0, 3, 0, 1, 2, 3, 0, 1, 1, 2, 0, 3, 1, 2, 0);
+        Expect.due("check(2): BLOCK where a proof is due", x.check(2), 7);
     }
 
     private static void checkTries() {
