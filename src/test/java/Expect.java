@@ -2,15 +2,21 @@
 final class Expect {
     private static int wrong = 0;
     private static int seen = 0;
+    private static String sentence = "";
 
     private Expect() {
+    }
+
+    /** The sentence of the document that the answers from here on are due by. */
+    static void by(String words) {
+        sentence = "'" + words + "': ";
     }
 
     static void due(String call, long got, long want) {
         seen++;
         if (got != want) {
             wrong++;
-            System.out.println(call + " answered " + got + ", due is " + want);
+            System.out.println(sentence + call + " answered " + got + ", due is " + want);
         }
     }
 

@@ -44,17 +44,80 @@ final class Graphs {
         return x;
     }
 
-    /** Its SEARCH with 6 colours finds nothing and writes just 3,000 lines. */
-    static ColourProof justFits() {
-        ColourProof x = drawn(30, 4687, 40);
-        x.turn(23, 24);
+    static ColourProof turned(int seed, int part, int factor, int shift) {
+        ColourProof x = drawn(30, seed, part);
+        x.turn(factor, shift);
         return x;
     }
 
-    /** Its SEARCH with 6 colours would write 3,001 lines. */
+    /** Its SEARCH with 6 colours finds nothing and writes just 3,000 lines, the last of them a BLOCK. */
+    static ColourProof justFits() {
+        return turned(4687, 40, 23, 24);
+    }
+
+    /** Its SEARCH with 6 colours would find nothing and write 3,001 lines, the last of them a BLOCK. */
     static ColourProof justTooLong() {
-        ColourProof x = drawn(30, 6858, 38);
-        x.turn(13, 23);
+        return turned(6858, 38, 13, 23);
+    }
+
+    /** Its SEARCH with 13 colours finds nothing and writes just 3,000 lines, the last of them a CLOSE. */
+    static ColourProof closeJustFits() {
+        return turned(171272, 82, 1, 15);
+    }
+
+    /** Its SEARCH with 7 colours would find nothing and write 3,001 lines, the last of them a CLOSE. */
+    static ColourProof closeJustTooLong() {
+        return turned(199516, 54, 17, 15);
+    }
+
+    /** Its SEARCH with 8 colours finds something behind the TRY that is its 3,000th line. */
+    static ColourProof foundJustInTime() {
+        return turned(11531, 62, 1, 2);
+    }
+
+    /** Its SEARCH with 8 colours would find something behind the TRY that is its 3,001st line. */
+    static ColourProof foundJustTooLate() {
+        return turned(11531, 62, 1, 1);
+    }
+
+    /** The 3,001st line of its SEARCH with 6 colours would be a BRANCH. */
+    static ColourProof branchTooLate() {
+        return drawn(30, 65392, 46);
+    }
+
+    /** Two told lines, one of them a CLOSE of no set, and three told colours, of 29 even where that is no vertex. */
+    static ColourProof told(ColourProof x) {
+        x.tell(1, 3);
+        x.tell(4, -7);
+        x.paint(0, 4);
+        x.paint(1, 29);
+        x.paint(29, 0);
+        return x;
+    }
+
+    /** The ring of five, with told lines and told colours, and not solved. */
+    static ColourProof unsolved() {
+        return told(ring(5));
+    }
+
+    /** The same, solved. */
+    static ColourProof solved() {
+        ColourProof x = unsolved();
+        x.solve();
+        return x;
+    }
+
+    /** No vertices, with told lines and told colours, and solved. */
+    static ColourProof solvedEmpty() {
+        ColourProof x = told(new ColourProof());
+        x.solve();
+        return x;
+    }
+
+    /** A told log of 3,000 lines, which 512 calls of tell() can't make. */
+    static ColourProof fullLog() {
+        ColourProof x = justFits();
+        x.search(6);
         return x;
     }
 }
