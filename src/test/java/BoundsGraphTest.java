@@ -171,9 +171,9 @@ public final class BoundsGraphTest {
     private static void edgeRefusesTheSame() {
         Expect.by("edge: NUMBER: .. or they are the same");
         for (int v = 0; v < 5; v++) {
-            int same = v;
-            Calls.changesNothing("edge(" + v + ", " + v + ", true)", Graphs::solved, x -> x.edge(same, same, true), -1);
-            Calls.changesNothing("edge(" + v + ", " + v + ", false)", Graphs::solved, x -> x.edge(same, same, false), -1);
+            int a = v;
+            Calls.changesNothing("edge(" + a + ", " + a + ", true)", Graphs::solved, x -> x.edge(a, a, true), -1);
+            Calls.changesNothing("edge(" + a + ", " + a + ", false)", Graphs::solved, x -> x.edge(a, a, false), -1);
         }
         Expect.due("edge(29, 29, true)", Graphs.of(30).edge(29, 29, true), -1);
         Expect.due("edge(-1, -1, true)", Graphs.of(30).edge(-1, -1, true), -1);

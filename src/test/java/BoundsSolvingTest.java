@@ -327,8 +327,9 @@ public final class BoundsSolvingTest {
         Calls.changesNothing("the 3,001st is a BLOCK", () -> Graphs.told(Graphs.justTooLong()), x -> x.search(6), -3);
         Calls.changesNothing("the 3,001st is a CLOSE", () -> Graphs.told(Graphs.closeJustTooLong()), x -> x.search(7),
                 -3);
-        Calls.changesNothing("the 3,001st is a TRY", () -> Graphs.told(Graphs.foundJustTooLate()), x -> x.search(8),
-                -3);
+        Calls.changesNothing("the 3,001st is a TRY that finds", () -> Graphs.told(Graphs.foundJustTooLate()),
+                x -> x.search(8), -3);
+        Calls.changesNothing("the 3,001st is a TRY", () -> Graphs.told(Graphs.tryTooLate()), x -> x.search(11), -3);
         Calls.changesNothing("the 3,001st is a BRANCH", () -> Graphs.told(Graphs.branchTooLate()), x -> x.search(6),
                 -3);
         // Behind one that is refused the next begins with an empty log.

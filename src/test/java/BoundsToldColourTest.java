@@ -20,6 +20,7 @@ public final class BoundsToldColourTest {
         chainOfOne();
         chainOverBothColoursAlone();
         chainOfAll();
+        chainOverSeveralWays();
         chainChangesTheOneForTheOther();
         chainOfVerticesOfTheGraph();
         chainRefusesNoVertex();
@@ -256,6 +257,16 @@ public final class BoundsToldColourTest {
                 Expect.due("paint(" + v + ", 0)", x.paint(v, 0), step % 2 == 0 ? 29 : 0);
             }
         }
+    }
+
+    private static void chainOverSeveralWays() {
+        Expect.by("chain: all that can be come to from it by EDGES (by one way or by several of one length)");
+        ColourProof x = paint(Graphs.ring(4), 0, 1, 0, 1);
+        Expect.due("chain(0, 1) of a ring of four", x.chain(0, 1), 4);
+        painted("chain(0, 1)", x, 1, 0, 1, 0);
+        x = paint(Graphs.complete(5), 3, 3, 3, 3, 3);
+        Expect.due("chain(4, 0) of all edges", x.chain(4, 0), 5);
+        painted("chain(4, 0)", x, 0, 0, 0, 0, 0);
     }
 
     private static void chainChangesTheOneForTheOther() {

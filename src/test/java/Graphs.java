@@ -80,9 +80,14 @@ final class Graphs {
         return turned(11531, 62, 1, 1);
     }
 
-    /** The 3,001st line of its SEARCH with 6 colours would be a BRANCH. */
+    /** The 3,001st line of its SEARCH with 6 colours would be a BRANCH, with all colours of those above it tried. */
     static ColourProof branchTooLate() {
-        return drawn(30, 65392, 46);
+        return turned(11852, 40, 17, 16);
+    }
+
+    /** The 3,001st line of its SEARCH with 11 colours would be a TRY, with all colours of those above it tried. */
+    static ColourProof tryTooLate() {
+        return turned(822, 80, 23, 12);
     }
 
     /** Two told lines, one of them a CLOSE of no set, and three told colours, of 29 even where that is no vertex. */

@@ -23,6 +23,7 @@ public final class Terms2Test {
         coloursInOrder();
         blockByANeighbour();
         blockByTheColour();
+        blockByAColourThatIsGone();
         blockByAny();
         tryIfNoneHasIt();
         tryThenAProof();
@@ -279,6 +280,26 @@ public final class Terms2Test {
         Expect.due("BLOCK 3, which has no colour", x.check(2), 6);
     }
 
+    /** The triangle of 4, 5 and 6 is closed everywhere; 3 is a neighbour of 1 and of 2, which has colours at times. */
+    private static void blockByAColourThatIsGone() {
+        Expect.by("w being a NEIGHBOUR of v with the colour c (in the COLOURING there, not in one before)");
+        int[] ends = {3, 1, 3, 2, 4, 5, 4, 6, 5, 6};
+        // 2 has the colours 0 and 1 below the TRY 0 of 1; 3 is branched on below its TRY 1.
+        int[] told = {BRANCH, 0, TRY, 0, BRANCH, 1, TRY, 0, BRANCH, 2, TRY, 0, CLOSE, 112, TRY, 1, CLOSE, 112,
+            TRY, 1, BRANCH, 3, TRY, 0, CLOSE, 112, BLOCK, 1};
+        ColourProof x = Logs.tell(Graphs.of(7, ends), told);
+        Expect.due("BLOCK 1, which has the colour 1", x.check(2), -1);
+        x.alter(13, BLOCK, 2);
+        Expect.due("BLOCK 2, which had the colour 1", x.check(2), 13);
+        // 2 has the colours 0 and 1 below the TRY 0 of 0; 3 is branched on below its TRY 1, and 1 has the colour 0.
+        told = new int[] {BRANCH, 1, TRY, 0, BRANCH, 0, TRY, 0, BRANCH, 2, TRY, 0, CLOSE, 112, TRY, 1, CLOSE, 112,
+            TRY, 1, BRANCH, 3, BLOCK, 1, TRY, 1, CLOSE, 112};
+        x = Logs.tell(Graphs.of(7, ends), told);
+        Expect.due("BLOCK 1, which has the colour 0", x.check(2), -1);
+        x.alter(11, BLOCK, 2);
+        Expect.due("BLOCK 2, which had the colours 0 and 1", x.check(2), 11);
+    }
+
     private static void blockByAny() {
         Expect.by("BLOCK w, w being a NEIGHBOUR (any one, not the least alone)");
         for (int w = 0; w < 3; w++) {
@@ -312,6 +333,10 @@ public final class Terms2Test {
         Expect.due("TRY", check(x, 2, BRANCH, 0, TRY, 0, TRY, 1), 2);
         Expect.due("BLOCK", check(x, 2, BRANCH, 0, TRY, 0, BLOCK, 0), 2);
         Expect.due("BRANCH", check(x, 2, BRANCH, 0, TRY, 0, BRANCH, 1), 3);
+        // What the BRANCH wants for its next colour can't come before the proof.
+        Expect.due("the next TRY", check(x, 2, BRANCH, 0, TRY, 0, BRANCH, 1, TRY, 0, TRY, 1, CLOSE, 28), 4);
+        Expect.due("the next BLOCK", check(Graphs.of(5, 0, 1, 1, 2, 2, 3, 2, 4, 3, 4), 2, BRANCH, 0, TRY, 0,
+                BRANCH, 2, TRY, 0, BRANCH, 1, BLOCK, 0, TRY, 1, BLOCK, 0), 7);
         // All 30 get colours one behind the other: there is nothing left that could stand.
         x = Graphs.of(30);
         for (int v = 29; v >= 0; v--) {

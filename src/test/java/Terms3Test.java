@@ -359,7 +359,8 @@ public final class Terms3Test {
         Expect.by("If a SEARCH would write a 3,001st LINE: solve() is refused, and nothing is solved");
         doesNotFit("the 3,001st is a BLOCK", Graphs.justTooLong(), 6);
         doesNotFit("the 3,001st is a CLOSE", Graphs.closeJustTooLong(), 7);
-        doesNotFit("the 3,001st is a TRY", Graphs.foundJustTooLate(), 8);
+        doesNotFit("the 3,001st is a TRY that finds", Graphs.foundJustTooLate(), 8);
+        doesNotFit("the 3,001st is a TRY", Graphs.tryTooLate(), 11);
         doesNotFit("the 3,001st is a BRANCH", Graphs.branchTooLate(), 6);
         // The first SEARCH finds something, a later one is too long.
         ColourProof x = Graphs.drawn(30, 2944, 40);
@@ -396,9 +397,10 @@ public final class Terms3Test {
     private static void likeTheReference() {
         Expect.by("a 3,001st LINE, by the Reference");
         int[][] graphs = {{4687, 40, 23, 24, 6}, {6858, 38, 13, 23, 6}, {171272, 82, 1, 15, 13},
-            {199516, 54, 17, 15, 7}, {11531, 62, 1, 2, 8}, {11531, 62, 1, 1, 8}, {65392, 46, 1, 0, 6}};
+            {199516, 54, 17, 15, 7}, {11531, 62, 1, 2, 8}, {11531, 62, 1, 1, 8}, {11852, 40, 17, 16, 6},
+            {822, 80, 23, 12, 11}};
         int[][] ends = {{0, 3000, BLOCK}, {0, 3001, BLOCK}, {0, 3000, CLOSE}, {0, 3001, CLOSE},
-            {1, 3000, TRY}, {1, 3001, TRY}, {1, 3003, BRANCH}};
+            {1, 3000, TRY}, {1, 3001, TRY}, {0, 3146, BRANCH}, {0, 3135, TRY}};
         for (int i = 0; i < graphs.length; i++) {
             Reference y = new Reference(4000);
             y.graph(30);
