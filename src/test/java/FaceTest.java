@@ -26,6 +26,7 @@ public final class FaceTest {
         newObject();
         objectsAreApart();
         language();
+        classesInside();
         Expect.end();
     }
 
@@ -123,5 +124,38 @@ public final class FaceTest {
         }
         String rest = code.replace("import java.util.Arrays;", "");
         Expect.due("the source imports more", Pattern.compile("\\bimport\\b").matcher(rest).find(), false);
+        newInFieldsAlone(code);
+    }
+
+    /** What a field holds is made once for an object; made anywhere else, 512 calls would make it again and again. */
+    private static void newInFieldsAlone(String code) {
+        int rows = 0;
+        for (String line : code.split("\n")) {
+            if (Pattern.compile("\\bnew\\b|\\bclone\\b|\\bcopyOf").matcher(line).find()) {
+                rows++;
+                Expect.due("made in a field: " + line.strip(),
+                        line.matches("\\s+(private )?final [\\w\\[\\]]+ \\w+ = new [^;]*;\\s*"), true);
+            }
+        }
+        Expect.due("something is made", rows > 0, true);
+    }
+
+    private static void classesInside() {
+        for (Class<?> inside : ColourProof.class.getDeclaredClasses()) {
+            int modifiers = inside.getModifiers();
+            String name = inside.getSimpleName();
+            Expect.due(name + " is static", Modifier.isStatic(modifiers), true);
+            Expect.due(name + " is open", Modifier.isPublic(modifiers) || Modifier.isProtected(modifiers), false);
+            staticFieldsAreFinal(inside);
+        }
+        staticFieldsAreFinal(ColourProof.class);
+        Expect.due("there are at most twelve classes", ColourProof.class.getDeclaredClasses().length < 12, true);
+    }
+
+    private static void staticFieldsAreFinal(Class<?> c) {
+        for (Field f : c.getDeclaredFields()) {
+            Expect.due(c.getSimpleName() + "." + f.getName() + " is static and changes",
+                    Modifier.isStatic(f.getModifiers()) && !Modifier.isFinal(f.getModifiers()), false);
+        }
     }
 }
